@@ -261,9 +261,9 @@ public final class LeaderlessMap {
 
     private static final class Attempt {
         final int ballot;
+        final boolean fast;
         final Report[] reports;
         int phase;
-        boolean fast;
         int replies;
         boolean agreed;
         int greatestSeq;
@@ -274,23 +274,18 @@ public final class LeaderlessMap {
             this.phase = phase;
             this.fast = fast;
             this.reports = new Report[roomForReports];
-            this.agreed = true;
         }
 
         void enterPhase(int newPhase) {
             phase = newPhase;
-            fast = false;
             replies = 0;
-            agreed = true;
-            greatestSeq = 0;
-            allDeps = 0;
         }
 
         void countOrder(Order reply) {
             // While all agree, the greatest seq and all the deps are those of each single reply.
             agreed = replies == 0 || (agreed && reply.seq == greatestSeq && reply.deps == allDeps);
             greatestSeq = replies == 0 ? reply.seq : Math.max(greatestSeq, reply.seq);
-            allDeps |= reply.deps;
+            allDeps = replies == 0 ? reply.deps : allDeps | reply.deps;
             replies++;
         }
 
@@ -440,7 +435,7 @@ public final class LeaderlessMap {
 
         private int leastReadyComponent(Entry[] entries) {
             for (int i = 0; i < entries.length; i++) {
-                int component = entries[i].state == COMMITTED ? readyComponent(entries, i) : 0;
+                int component = entries[i].state == COMMITTED ? readyComponent(i) : 0;
                 if (component != 0) {
                     return component;
                 }
@@ -449,13 +444,14 @@ public final class LeaderlessMap {
         }
 
         /**
-         * The component of an instance, or 0 if it has to wait. It is ready just if all that it reaches and that
-         * is not EXECUTED reaches it too, since then nothing open is left outside the component.
+         * The component of a COMMITTED instance, or 0 if it has to wait. It is ready just if all that it reaches
+         * and that is not EXECUTED reaches it too: then nothing open is left outside the component, and nothing in
+         * it is less than COMMITTED, since that reaches nothing.
          */
-        private int readyComponent(Entry[] entries, int i) {
+        private int readyComponent(int i) {
             int open = (reach[i] | 1 << i) & ~executedSet;
-            for (int j = 0; j < entries.length; j++) {
-                boolean mutual = j == i || (entries[j].state == COMMITTED && contains(reach[j], i));
+            for (int j = 0; j < reach.length; j++) {
+                boolean mutual = j == i || contains(reach[j], i);
                 if (contains(open, j) && !mutual) {
                     return 0;
                 }
@@ -607,9 +603,10 @@ public final class LeaderlessMap {
             attempt.countOrder(got.order);
             Command command = entries[got.instance].order.command;
             Order merged = new Order(command, attempt.greatestSeq, attempt.allDeps);
-            if (attempt.fast && attempt.agreed && attempt.replies == size - 2) {
+            boolean mayBeFast = attempt.fast && attempt.agreed;
+            if (mayBeFast && attempt.replies == size - 2) {
                 commitHere(got.instance, merged);
-            } else if (attempt.replies >= faults && !(attempt.fast && attempt.agreed)) {
+            } else if (!mayBeFast && attempt.replies >= faults) {
                 beginAccepting(got.instance, attempt, merged);
             }
         }
