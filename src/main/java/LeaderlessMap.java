@@ -652,12 +652,12 @@ public final class LeaderlessMap {
             attempt.countReport(got.report);
             if (attempt.replies == faults) {
                 attempt.countReport(new Report(number, entry));
-                finishForeign(got.instance, attempt);
+                finishOpen(got.instance, attempt);
             }
         }
 
         /** Goes on with what the reports leave possible, so that nothing committed elsewhere is contradicted. */
-        private void finishForeign(int instance, Attempt attempt) {
+        private void finishOpen(int instance, Attempt attempt) {
             Report accepted = attempt.lastAccepted();
             Report shared = attempt.sharedFastVote(instance / OWNED_EACH, faults);
             Report preaccepted = attempt.firstPreaccepted();
