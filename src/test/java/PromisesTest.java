@@ -1,5 +1,5 @@
 /** Promises 1 to 18, one method each: ordinary inputs, the edges that the document names, wrong inputs. */
-public final class PromisesTest {
+public final class PromisesTest implements Kinds {
     private static final Check CHECK = new Check("PromisesTest");
     private static final int MIN = Integer.MIN_VALUE;
     private static final int MAX = Integer.MAX_VALUE;
@@ -22,6 +22,11 @@ public final class PromisesTest {
         promised();
         resultAndPlace();
         value();
+        deliverAnswersTheKind(false);
+        deliverAnswersTheKind(true);
+        looksInEachState();
+        crashShowsInNoLook();
+        greatestMessage();
         CHECK.end();
     }
 
@@ -395,5 +400,95 @@ public final class PromisesTest {
         }
         x.crash(0);
         CHECK.due("18: a crashed one's map", x.value(0, 3), MAX);
+    }
+
+    private static void deliverAnswersTheKind(boolean crashed) {
+        CHECK.sentence("Promise 4: its kind, 0 .. 6, whatever the receiver does with it");
+        int[] kinds = {PREACCEPT, PREACCEPTOK, ACCEPT, ACCEPTOK, COMMIT, PREPARE, PROMISE};
+        for (int kind : kinds) {
+            LeaderlessMap x = new LeaderlessMap(3);
+            x.propose(1, 0, true, 1);
+            x.propose(0, 0, true, 1);
+            CHECK.ask(x, PREACCEPT, 1, 2, 6);
+            CHECK.pass(x, PREACCEPT, 0, 1, 0);
+            x.propose(0, 0, true, 1);
+            x.prepare(1, 17);
+            CHECK.ask(x, PREPARE, 1, 2, 17);
+            CHECK.pass(x, ACCEPT, 1, 2, 17);
+            x.prepare(1, 16);
+            CHECK.pass(x, PREPARE, 1, 2, 16);
+            int k = firstOfKind(x, kind);
+            CHECK.due("crash", !crashed || x.crash(x.message(k) / 64 % 8), true);
+            int before = x.waiting();
+            CHECK.due("deliver of kind " + kind, x.deliver(k), kind);
+            CHECK.due("to a crashed one it is gone, and no more", !crashed || x.waiting() == before - 1, true);
+        }
+    }
+
+    private static int firstOfKind(LeaderlessMap x, int kind) {
+        for (int k = 0; k < x.waiting(); k++) {
+            if (x.message(k) % 8 == kind) {
+                return k;
+            }
+        }
+        CHECK.due("the index of a message of kind " + kind, -1, 0);
+        return -1;
+    }
+
+    /** Replica 2 comes to have instance 0 in each state; the looks at it after each step. */
+    private static void looksInEachState() {
+        LeaderlessMap x = new LeaderlessMap(3);
+        x.propose(0, 3, true, MAX);
+        x.propose(1, 3, true, MIN);
+        CHECK.ask(x, PREACCEPT, 1, 2, 6);
+        CHECK.pass(x, COMMIT, 1, 2, 6);
+        CHECK.due("6 is executed at 2", x.execute(2), 1);
+        looks(x, 0, -1, -1, -1, 0, 0, -1);
+        x.prepare(2, 0);
+        looks(x, 0, -1, -1, -1, 2, 0, -1);
+        CHECK.ask(x, PREPARE, 2, 0, 0);
+        looks(x, 1, 7, 2, 1 << 6, 2, 0, -1);
+        CHECK.ask(x, PREACCEPT, 2, 0, 0);
+        looks(x, 2, 7, 2, 1 << 6, 2, 0, -1);
+        CHECK.ask(x, ACCEPT, 2, 0, 0);
+        looks(x, 3, 7, 2, 1 << 6, 2, 0, -1);
+        CHECK.due("0 is executed at 2", x.execute(2), 1);
+        looks(x, 4, 7, 2, 1 << 6, 2, MIN, 1);
+        CHECK.due("6 is the one before", x.place(2, 6), 0);
+    }
+
+    private static void looks(LeaderlessMap x, int... row) {
+        CHECK.sentence("Promises 11 to 17, the state is " + row[0] + ": -1 if the entry is UNKNOWN, 0 or -1 if it is not EXECUTED");
+        CHECK.entry("looks", x, 2, 0, row);
+        CHECK.due("result", x.result(2, 0), row[5]);
+        CHECK.due("place", x.place(2, 0), row[6]);
+    }
+
+    private static void crashShowsInNoLook() {
+        CHECK.sentence("Promises 8 to 18: a crashed replica is a replica still, and its entries and map are shown");
+        Picture.Run run = x -> {
+            x.propose(1, 2, true, MIN);
+            Check.deliverAll(x);
+            x.execute(1);
+            x.propose(1, 2, true, 4);
+            x.prepare(1, 17);
+            x.prepare(0, 7);
+        };
+        CHECK.same("after crash(1)", Picture.of(3, run), Picture.of(3, Picture.then(run, x -> x.crash(1))));
+        CHECK.same("after crash(1)", Picture.of(5, run), Picture.of(5, Picture.then(run, x -> x.crash(1))));
+    }
+
+    private static void greatestMessage() {
+        CHECK.sentence("Promise 9: its kind + 8 * sender + 64 * receiver + 512 * instance");
+        LeaderlessMap x = new LeaderlessMap(5);
+        x.prepare(4, 29);
+        CHECK.pass(x, PREPARE, 4, 3, 29);
+        CHECK.due("PROMISE of 3 to 4 about 29", x.message(3), 6 + 8 * 3 + 64 * 4 + 512 * 29);
+        LeaderlessMap y = new LeaderlessMap(3);
+        y.propose(2, 0, true, 1);
+        CHECK.due("PREACCEPT of 2 to 0 about 12", y.message(0), 8 * 2 + 512 * 12);
+        LeaderlessMap z = new LeaderlessMap(5);
+        z.propose(0, 0, true, 1);
+        CHECK.due("PREACCEPT of 0 to 1 about 0", z.message(0), 64);
     }
 }
