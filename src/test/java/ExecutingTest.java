@@ -15,6 +15,7 @@ public final class ExecutingTest implements Kinds {
         componentAfterComponent();
         allInstances(3);
         allInstances(5);
+        allInOneComponent();
         oneComponentBySeqThenNumber();
         waitsForAllOfTheComponent();
         leastReadyComponentEachTime();
@@ -213,6 +214,39 @@ public final class ExecutingTest implements Kinds {
         CHECK.due("the last", x.place(0, 5), 6 * n - 1);
         CHECK.due("the value before the last", x.result(0, 5), 6 + 6);
         CHECK.due("value", x.value(0, 2), 6);
+    }
+
+    /** Each replica's six ask for all six of the next one, so that all can be reached from all. */
+    private static void allInOneComponent() {
+        CHECK.sentence("two instances are in one COMPONENT if each can be reached from the other: all 6 n of them");
+        LeaderlessMap x = new LeaderlessMap(3);
+        for (int i = 0; i < 18; i++) {
+            x.propose(i / 6, 1, true, 100 + i);
+        }
+        for (int k = 0; k < 36; k++) {
+            x.deliver(0);
+        }
+        for (int r = 0; r < 3; r++) {
+            int next = 63 << 6 * (r + 1) % 18;
+            CHECK.due("the next one's six", x.deps(r, 6 * r) & next, next);
+        }
+        for (int i = 6; i < 17; i++) {
+            CHECK.pass(x, COMMIT, i / 6, 0, i);
+        }
+        CHECK.due("17 is not there", x.execute(0), 0);
+        CHECK.pass(x, COMMIT, 2, 0, 17);
+        CHECK.due("all in one call", x.execute(0), 18);
+        int[] seqs = new int[18];
+        for (int i = 0; i < 18; i++) {
+            seqs[i] = x.seq(0, i);
+        }
+        for (int i = 0; i < 18; i++) {
+            int before = 0;
+            for (int j = 0; j < 18; j++) {
+                before += seqs[j] < seqs[i] || seqs[j] == seqs[i] && j < i ? 1 : 0;
+            }
+            CHECK.due("place of " + i, x.place(0, i), before);
+        }
     }
 
     /**

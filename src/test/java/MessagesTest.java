@@ -1,13 +1,6 @@
 /** What a replica does with each kind of message, in runs that are worked out by hand from the document. */
-public final class MessagesTest {
+public final class MessagesTest implements Kinds {
     private static final Check CHECK = new Check("MessagesTest");
-    private static final int PREACCEPT = 0;
-    private static final int PREACCEPTOK = 1;
-    private static final int ACCEPT = 2;
-    private static final int ACCEPTOK = 3;
-    private static final int COMMIT = 4;
-    private static final int PREPARE = 5;
-    private static final int PROMISE = 6;
 
     public static void main(String[] args) {
         fastWithThree();
